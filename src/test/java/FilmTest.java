@@ -130,6 +130,17 @@ public final class FilmTest {
         x.wheel(0, 4, 1);
         x.film(0, 6);
         due.same("fluttering", 15, x.which(0));
+        x = new PullsToTheLeft();
+        Due.read(x, "drags more*10*(wheel=3);holds 0;bumps 0;");
+        x.force(1);
+        x.wheel(3, 0, 7);
+        for (int t = 0; t < 30; t++) x.set(4, t, 99);
+        x.film(0, 2);
+        for (int w = 0; w < 3; w++) x.wheel(w, 0, 9);
+        due.same("a plain one with more", 8, x.which(0));
+        x.wheel(3, 0, 0);
+        x.film(0, 2);
+        due.same("all plain ones with more 0", 15, x.which(0));
     }
 
     private static void held() {

@@ -39,6 +39,14 @@ public final class HoldingTest {
         due.same("1 is not a multiple of 3", -1, x.exact());
         due.same("straight(0)", 0, x.straight(0));
         x.wheel(0, 2, 9);
+        x.wheel(2, 2, 3);
+        due.same("26 is not a multiple of 3", -1, x.exact());
+        x.wheel(2, 2, 4);
+        x.wheel(1, 1, 1);
+        due.same("27: the left hand at most", 90, x.exact());
+        x.wheel(1, 0, 0);
+        x.wheel(2, 2, 5);
+        due.same("30: more than the left hand can", -1, x.exact());
         x.wheel(2, 2, 9);
         // 38 to the left, 27 at most to the right: 11 times 3 by 8 is 4 a tenth.
         due.same("straight(0)", 0, x.straight(0));
@@ -125,6 +133,15 @@ public final class HoldingTest {
         x.set(0, 7, 1);
         due.same("2 from behind", 25, x.swap(0));
         due.same("farthest then", 0, x.swap(1));
+        x = new PullsToTheLeft();
+        x.set(3, 0, 4);
+        x.wheel(0, 2, 4);
+        for (int t = 0; t < 30; t++) x.set(4, t, 99);
+        x.set(0, 5, 5);
+        x.set(0, 6, 3);
+        // 13 to the left: less 8 by changing these, less 20 by taking 5 across, 12 more by 3.
+        due.same("neighbours", 56, x.swap(0));
+        due.same("farthest then", 60, x.swap(1));
         due.same("BAD", -2, x.swap(2));
         due.same("BAD", -2, x.swap(-1));
     }
@@ -224,9 +241,10 @@ public final class HoldingTest {
         x.set(1, 0, 1);
         x.set(2, 0, 1);
         due.same("holding, too", 60, x.mend(1));
-        x = by("drags more*(wheel=3);holds 0;bumps 5;");
+        x = by("drags more*8*(wheel=3);holds 0;bumps 5;");
         x.wheel(3, 0, 3);
         due.same("more becomes 0, too", 3, x.mend(0));
+        due.same("more becomes 0, too", 0, x.mend(1));
         due.same("BAD", -2, x.mend(2));
         due.same("BAD", -2, x.mend(-1));
     }

@@ -146,6 +146,9 @@ public final class LawTest {
         due.same("a key where a name is due", -106, read("drags bumps ;"));
         due.same("a word that is none", -106, read("drags loads ;"));
         due.same("a word that is none", -106, read("drags loa ;"));
+        due.same("a word that is none", -106, read("drags toad ;"));
+        due.same("a word that is none", -100, read("crags 1 ;"));
+        due.same("a word that is none", -106, read("drags wheex ;"));
         due.same("words grown together", -100, read("dragsload ;"));
         due.same("a number that is too long", -106, read("drags 00001 ;"));
         due.same("a number that is long enough", -110, read("drags 9999"));

@@ -195,6 +195,9 @@ public final class RollTest {
         x.set(0, 3, 40);
         x.set(3, 0, 9);
         due.same("99 at most", 30 * 99, x.roll(1));
+        Due.read(x, "drags 99*(wheel=1);holds 0;bumps 101-load;");
+        x.force(2);
+        due.same("99 at most", 30 * 2, x.roll(1));
     }
 
     private static void tenthsInTexts() {
