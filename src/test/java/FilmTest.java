@@ -133,8 +133,9 @@ public final class FilmTest {
         x = new PullsToTheLeft();
         Due.read(x, "drags more*10*(wheel=3);holds 0;bumps 0;");
         x.force(1);
-        x.wheel(3, 0, 7);
-        for (int t = 0; t < 30; t++) x.set(4, t, 99);
+        x.wheel(3, 0, 4);
+        x.set(4, 1, 99);
+        // 40 times 3 by 8: no other kind, with any more, goes 15 to the right.
         x.film(0, 2);
         for (int w = 0; w < 3; w++) x.wheel(w, 0, 9);
         due.same("a plain one with more", 8, x.which(0));
