@@ -9,6 +9,8 @@ public final class PullsToTheLeft {
     private static final int NOTHING_THERE = -11, OUTSIDE = -12, OTHER_SORT = -13, SIZE_BELOW = -14;
     private static final int NOWHERE = -1000000;
     private static final int ALLOWED = 0;
+    // No FARTHEST, COST or BAD of all that are met comes near it.
+    private static final int ABOVE_ALL = 1000000;
 
     private static final int WHEELS = 4, PLACES = 8, TENTHS = 30, HANDINGS = 100;
     private static final int MOST_HAND = 9, MOST_LOAD = 40, MOST_MORE = 9, MOST_PACE = 9;
@@ -259,7 +261,7 @@ public final class PullsToTheLeft {
         if (!within(what, 0, 1)) {
             return BAD;
         }
-        int least = Integer.MAX_VALUE;
+        int least = ABOVE_ALL;
         int hands = 0;
         thought.become(cart);
         for (int h = 0; h < HANDINGS; h++) {
@@ -299,7 +301,7 @@ public final class PullsToTheLeft {
         if (!within(much, 1, MOST_LOAD) || !within(what, 0, 1)) {
             return BAD;
         }
-        int least = Integer.MAX_VALUE;
+        int least = ABOVE_ALL;
         int place = NONE;
         thought.become(cart);
         for (int p = 0; p < PLACES; p++) {
@@ -369,7 +371,7 @@ public final class PullsToTheLeft {
     }
 
     private int freePlaceFor(int load, int filled) {
-        int least = Integer.MAX_VALUE;
+        int least = ABOVE_ALL;
         int place = 0;
         for (int p = 0; p < PLACES; p++) {
             if ((filled >> p & 1) == 1) continue;
@@ -682,7 +684,7 @@ public final class PullsToTheLeft {
         if (!isGuests(n) || !within(what, 0, 1)) {
             return BAD;
         }
-        int least = Integer.MAX_VALUE;
+        int least = ABOVE_ALL;
         int looks = 1;
         for (int l = 1; l <= MOST_LOOKS; l++) {
             thoughtRow.become(row);

@@ -19,6 +19,15 @@ final class Due {
         }
     }
 
+    /** Any answer but that one. */
+    void other(String call, long refusal, long got) {
+        asked++;
+        if (got == refusal) {
+            wrong++;
+            System.out.println(call + " answered " + got + ", due is another answer");
+        }
+    }
+
     void end() {
         System.out.println(asked + " answers, " + wrong + " of them not as due");
         if (wrong != 0) System.exit(1);

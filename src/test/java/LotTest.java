@@ -14,27 +14,6 @@ public final class LotTest {
         due.end();
     }
 
-    private static int hand(int told, long lot) {
-        int v = told + (int) (lot % 3) - 1;
-        return v < 0 ? 0 : v > 9 ? 9 : v;
-    }
-
-    /** Of four plain wheels without loads: where it is at the end, or where it bumps (bits). */
-    private static int plainly(int left, int right, int pace, long seed, int what) {
-        long lot = seed + 1;
-        int aside = 0;
-        int bits = 0;
-        for (int t = 0; t < 30; t++) {
-            lot = lot * 48271 % 2147483647;
-            aside -= 3 * (hand(right, lot / 3) - hand(left, lot)) * pace / 8;
-            if (aside > 20 || aside < -20) {
-                bits |= 1 << t;
-                aside = aside > 0 ? 20 : -20;
-            }
-        }
-        return what == 0 ? aside : bits;
-    }
-
     private static void drawn() {
         int[] seeds = {0, 1, 2, 7, 42, 1000, 44443, 99998, 99999};
         int[][] hands = {{0, 0}, {9, 9}, {5, 5}, {4, 6}, {9, 0}, {0, 9}};
@@ -47,7 +26,7 @@ public final class LotTest {
                 for (int seed : seeds) {
                     for (int what = 0; what < 2; what++) {
                         due.same("drawn(" + seed + ", " + what + ")",
-                                plainly(h[0], h[1], pace, seed, what), x.drawn(seed, what));
+                                Lots.plainly(h[0], h[1], pace, seed, what), x.drawn(seed, what));
                     }
                 }
             }
@@ -83,7 +62,7 @@ public final class LotTest {
     private static long expectedOdds(int seed, int seeds, int part) {
         int smooth = 0;
         for (int i = 0; i < seeds; i++) {
-            if (plainly(0, 0, 9, (long) seed + i, 1) == 0) smooth++;
+            if (Lots.plainly(0, 0, 9, (long) seed + i, 1) == 0) smooth++;
         }
         int divisor = seeds;
         while (smooth % divisor != 0 || seeds % divisor != 0) divisor--;

@@ -17,7 +17,7 @@ public final class RulesTest {
         "\\.(hashCode|toString|getClass|wait|notify|notifyAll)\\s*\\(", "\\bstatic\\s*\\{",
         "\\bnew\\s+\\w+\\s*\\([^)]*\\)\\s*\\{", "@\\w+", "\\bObject\\b", "\\bThread\\b",
         "\\bSystem\\.(?!arraycopy\\b)", "\\bArrays\\.(?!copyOf\\b|copyOfRange\\b|fill\\b)",
-        "\\bMath\\.(?!max\\b|min\\b|abs\\b|floorDiv\\b|floorMod\\b)", "\\[\\]\\s*\\[\\]", "[^\\x00-\\x7f]"
+        "\\bInteger\\b", "\\bLong\\b", "\\bMath\\.(?!max\\b|min\\b|abs\\b|floorDiv\\b|floorMod\\b)", "\\[\\]\\s*\\[\\]", "[^\\x00-\\x7f]"
     };
     private static final Pattern METHOD =
             Pattern.compile("^ +((?:(?:public|private|static|final) )*)(?:[\\w\\[\\]]+ )?(\\w+)\\(([^)]*)\\) \\{$");
