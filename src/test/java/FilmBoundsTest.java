@@ -36,13 +36,6 @@ public final class FilmBoundsTest {
         due.end();
     }
 
-    private static PullsToTheLeft by(String text) {
-        PullsToTheLeft x = new PullsToTheLeft();
-        due.same(text, 1, Due.read(x, text));
-        x.force(1);
-        return x;
-    }
-
     /** Of what has something of everything, sheet 3 is missing and sheet 2 tells 40. */
     private static void sheetsRefused(String call, Bounds.Numbered asked) {
         bounds.range(call, -2, 0, 3, asked);
@@ -165,7 +158,7 @@ public final class FilmBoundsTest {
 
     private static void whichOneAlone() {
         for (int w = 0; w < 4; w++) {
-            PullsToTheLeft x = by("drags more*10*(wheel=" + w + ");holds 0;bumps 0;");
+            PullsToTheLeft x = Made.by(due, "drags more*10*(wheel=" + w + ");holds 0;bumps 0;");
             x.wheel(w, 0, 4);
             x.film(0, 1);
             for (int other = 0; other < 4; other++) x.wheel(other, 5, 9);
@@ -182,7 +175,7 @@ public final class FilmBoundsTest {
         x.wheel(1, 1, 1);
         x.film(0, 1);
         due.same("27: 1 to the right, but none turns so", 10, x.which(0));
-        for (int t = 0; t < 30; t++) x.set(4, t, 99);
+        Made.allWide(x, 99);
         x.wheel(0, 2, 9);
         x.wheel(1, 2, 9);
         x.film(0, 1);
@@ -199,7 +192,7 @@ public final class FilmBoundsTest {
     }
 
     private static void heldFromNoneToAll() {
-        PullsToTheLeft x = by("drags 50*(wheel=0)*(hand<9);holds 0;bumps 0;");
+        PullsToTheLeft x = Made.by(due, "drags 50*(wheel=0)*(hand<9);holds 0;bumps 0;");
         x.sheet(0, 2, 30);
         due.same("28: straight on: one", 1, x.held(0, 0));
         due.same("28: both hands at most", 99, x.held(0, 1));
@@ -211,11 +204,11 @@ public final class FilmBoundsTest {
         x.film(0, 30);
         due.same("28: 9 and 0 go farther than 8 and 0", 1, x.held(0, 0));
         due.same("28: 9 and 0", 90, x.held(0, 1));
-        for (int t = 0; t < 30; t++) x.set(4, t, 1);
+        Made.allWide(x, 1);
         x.film(0, 30);
         due.same("28: in so narrow an aisle all to the right", 45, x.held(0, 0));
         due.same("28: 1 and 0", 10, x.held(0, 1));
-        x = by("drags 0;holds 0;bumps 0;");
+        x = Made.by(due, "drags 0;holds 0;bumps 0;");
         x.wheel(0, 2, 9);
         x.wheel(1, 2, 9);
         x.wheel(2, 2, 9);

@@ -38,17 +38,6 @@ public final class HoldingBoundsTest {
         due.end();
     }
 
-    private static PullsToTheLeft by(String text) {
-        PullsToTheLeft x = new PullsToTheLeft();
-        due.same(text, 1, Due.read(x, text));
-        x.force(1);
-        return x;
-    }
-
-    private static void allWide(PullsToTheLeft x, int wide) {
-        for (int t = 0; t < 30; t++) x.set(4, t, wide);
-    }
-
     private static void twoSorts(String call, Bounds.Numbered asked) {
         bounds.range(call, -2, 0, 1, asked);
         bounds.onlyAsks(call + "(0)", x -> asked.of(x, 0));
@@ -86,7 +75,7 @@ public final class HoldingBoundsTest {
         x.set(2, 0, 9);
         hands(x, 0, 0, 0);
         // All but both hands at most are pulled by 26 at least.
-        x = by("drags 50*(wheel=0)*(hand<9);holds 9-hand;bumps 9;");
+        x = Made.by(due, "drags 50*(wheel=0)*(hand<9);holds 9-hand;bumps 9;");
         hands(x, 99, 0, 0);
         x.set(1, 0, 9);
         x.set(2, 0, 9);
@@ -94,20 +83,20 @@ public final class HoldingBoundsTest {
     }
 
     private static void oneHandAlone() {
-        hands(by("drags 27*(wheel=1);holds hand<5;bumps 99;"), 9, 0, 30);
-        hands(by("drags 27*(wheel=0);holds hand<5;bumps 99;"), 90, 0, 30);
-        due.same("16: no multiple of 3", -1, by("drags 26*(wheel=0);holds 0;bumps 0;").exact());
-        due.same("16: beyond the left hand", -1, by("drags 30*(wheel=0);holds 0;bumps 0;").exact());
-        due.same("16: beyond the right hand", -1, by("drags 30*(wheel=1);holds 0;bumps 0;").exact());
+        hands(Made.by(due, "drags 27*(wheel=1);holds hand<5;bumps 99;"), 9, 0, 30);
+        hands(Made.by(due, "drags 27*(wheel=0);holds hand<5;bumps 99;"), 90, 0, 30);
+        due.same("16: no multiple of 3", -1, Made.by(due, "drags 26*(wheel=0);holds 0;bumps 0;").exact());
+        due.same("16: beyond the left hand", -1, Made.by(due, "drags 30*(wheel=0);holds 0;bumps 0;").exact());
+        due.same("16: beyond the right hand", -1, Made.by(due, "drags 30*(wheel=1);holds 0;bumps 0;").exact());
     }
 
     private static void farthestFrom0To99() {
-        PullsToTheLeft x = by("drags 99*(wheel=0);holds hand;bumps 99;");
-        allWide(x, 99);
+        PullsToTheLeft x = Made.by(due, "drags 99*(wheel=0);holds hand;bumps 99;");
+        Made.allWide(x, 99);
         due.same("14: of like ones the first", 0, x.straight(0));
         due.same("14: farthest, at most", 99, x.straight(1));
         due.same("15: held or not, it bumps", 0, x.hold(0) % 10);
-        allWide(x, 1);
+        Made.allWide(x, 1);
         due.same("14: of like ones the first", 0, x.straight(0));
         due.same("14: just wide", 1, x.straight(1));
         due.same("15: of like ones the first", 0, x.hold(0));
@@ -119,7 +108,7 @@ public final class HoldingBoundsTest {
         int[] bumps = {5, 6};
         int[] hands = {0, 10};
         for (int i = 0; i < 2; i++) {
-            PullsToTheLeft x = by("drags 3*(wheel=0);holds 4*hand;bumps " + bumps[i] + ";");
+            PullsToTheLeft x = Made.by(due, "drags 3*(wheel=0);holds 4*hand;bumps " + bumps[i] + ";");
             x.set(3, 0, 8);
             due.same("15: of like ones the first, or the cheapest", hands[i], x.hold(0));
             due.same("15: 30 times 4, or 24 times 5", 120, x.hold(1));
@@ -128,9 +117,9 @@ public final class HoldingBoundsTest {
     }
 
     private static void exactInAllTenths() {
-        due.same("16: but in the first tenth", -1, by("drags 3*(wheel=0)*(0<tenth);holds 0;bumps 0;").exact());
-        due.same("16: but in the last tenth", -1, by("drags 3*(wheel=0)*(tenth<29);holds 0;bumps 0;").exact());
-        PullsToTheLeft x = by("drags wheel=0;holds 0;bumps 0;");
+        due.same("16: but in the first tenth", -1, Made.by(due, "drags 3*(wheel=0)*(0<tenth);holds 0;bumps 0;").exact());
+        due.same("16: but in the last tenth", -1, Made.by(due, "drags 3*(wheel=0)*(tenth<29);holds 0;bumps 0;").exact());
+        PullsToTheLeft x = Made.by(due, "drags wheel=0;holds 0;bumps 0;");
         due.same("16: 1 is not 0", -1, x.exact());
         due.same("14: though it goes nowhere", 0, x.straight(1));
         due.same("14: with none, as 1 by 8 is cut", 0, x.straight(0));
@@ -170,7 +159,7 @@ public final class HoldingBoundsTest {
     private static PullsToTheLeft loaded(int... loads) {
         PullsToTheLeft x = new PullsToTheLeft();
         x.set(3, 0, 4);
-        allWide(x, 99);
+        Made.allWide(x, 99);
         for (int p = 0; p < 8; p++) x.set(0, p, loads[p]);
         return x;
     }
@@ -216,10 +205,10 @@ public final class HoldingBoundsTest {
     }
 
     private static void layInTheLastPlaces() {
-        PullsToTheLeft x = by("drags load*(wheel=3);holds 0;bumps 0;");
+        PullsToTheLeft x = Made.by(due, "drags load*(wheel=3);holds 0;bumps 0;");
         x.wheel(0, 2, 9);
         x.set(3, 0, 1);
-        allWide(x, 99);
+        Made.allWide(x, 99);
         x.set(0, 0, 9);
         x.set(0, 1, 10);
         // 19 to the left: 10 against it, then 9; those of 0 then come where there is room.
@@ -233,8 +222,8 @@ public final class HoldingBoundsTest {
     /** Were there less than nothing, or what lies there now, 2 would be even with it at another place. */
     private static void layFirstNothingAnywhere() {
         for (int p = 0; p < 8; p++) {
-            PullsToTheLeft x = by("drags load+9;holds 0;bumps 0;");
-            allWide(x, 99);
+            PullsToTheLeft x = Made.by(due, "drags load+9;holds 0;bumps 0;");
+            Made.allWide(x, 99);
             x.set(3, 0, 4);
             x.set(0, p, 2);
             due.same("19: the only one comes first", 12345678, x.lay(0));
@@ -247,20 +236,20 @@ public final class HoldingBoundsTest {
         due.same("20: the greatest", 9, x.quick());
         x.set(3, 0, 1);
         due.same("20: whatever it is", 9, x.quick());
-        allWide(x, 99);
+        Made.allWide(x, 99);
         x.set(2, 0, 1);
         x.set(4, 29, 90);
         due.same("20: 90 aside, just as wide", 9, x.quick());
         x.set(4, 29, 89);
         due.same("20: 90 aside at pace 8, too", 7, x.quick());
-        x = by("drags 8*(wheel=0);holds 0;bumps 0;");
+        x = Made.by(due, "drags 8*(wheel=0);holds 0;bumps 0;");
         x.set(3, 0, 9);
-        allWide(x, 30);
+        Made.allWide(x, 30);
         due.same("20: the least", 1, x.quick());
         x.set(4, 29, 29);
         due.same("20: none, by the last tenth", -1, x.quick());
-        due.same("20: not by the first", 9, by("drags 17*(wheel=0)*(tenth=0);holds 0;bumps 0;").quick());
-        due.same("20: by the first", 8, by("drags 19*(wheel=0)*(tenth=0);holds 0;bumps 0;").quick());
+        due.same("20: not by the first", 9, Made.by(due, "drags 17*(wheel=0)*(tenth=0);holds 0;bumps 0;").quick());
+        due.same("20: by the first", 8, Made.by(due, "drags 19*(wheel=0)*(tenth=0);holds 0;bumps 0;").quick());
     }
 
     private static void fluttersFrom1To9() {
@@ -282,7 +271,7 @@ public final class HoldingBoundsTest {
         };
         int[] pace = {1, 1, -1, -1, -1, -1, -1, 9};
         for (int i = 0; i < drags.length; i++) {
-            due.same("21: " + drags[i], pace[i], by("drags " + drags[i] + ";holds 0;bumps 0;").flutters());
+            due.same("21: " + drags[i], pace[i], Made.by(due, "drags " + drags[i] + ";holds 0;bumps 0;").flutters());
         }
     }
 
@@ -293,11 +282,11 @@ public final class HoldingBoundsTest {
             due.same("22: the one", w, x.mend(0));
             due.same("22: cost then", 0, x.mend(1));
             due.same("22: in thought", 19, x.wheel(w, 0, 9));
-            x = by("drags more*(wheel=" + w + ");holds 0;bumps 1;");
+            x = Made.by(due, "drags more*(wheel=" + w + ");holds 0;bumps 1;");
             x.wheel(w, 0, 9);
             due.same("22: more 0, too", w, x.mend(0));
             due.same("22: cost then", 0, x.mend(1));
-            x = by("drags (more+1)*8*(wheel=" + w + ");holds 0;bumps 1;");
+            x = Made.by(due, "drags (more+1)*8*(wheel=" + w + ");holds 0;bumps 1;");
             x.wheel(w, 0, 1);
             due.same("22: just 0", w, x.mend(0));
             due.same("22: 3 a tenth bump in 24 of them", 24, x.mend(1));
@@ -305,7 +294,7 @@ public final class HoldingBoundsTest {
         PullsToTheLeft x = new PullsToTheLeft();
         for (int w = 0; w < 4; w++) x.wheel(w, 2, 9);
         x.set(3, 0, 1);
-        allWide(x, 99);
+        Made.allWide(x, 99);
         // 76 to the left: 9 a tenth; 57 to the left: 7 a tenth.
         due.same("22: of like ones the first", 0, x.mend(0));
         due.same("22: from 105 on it bumps", 9 * 16, x.mend(1));
@@ -323,7 +312,7 @@ public final class HoldingBoundsTest {
         x = new PullsToTheLeft();
         x.wheel(0, 1, 0);
         due.same("22: no less by a sticking one with more 0", -1, x.mend(0));
-        x = by("drags 99*(wheel=0);holds 0;bumps 5;");
+        x = Made.by(due, "drags 99*(wheel=0);holds 0;bumps 5;");
         x.wheel(2, 2, 9);
         due.same("22: it bumps as often", -1, x.mend(0));
         due.same("22: as now", 150, x.mend(1));
@@ -334,7 +323,7 @@ public final class HoldingBoundsTest {
     }
 
     private static void changeFrom0To29() {
-        PullsToTheLeft x = by("drags 0;holds 5;bumps 0;");
+        PullsToTheLeft x = Made.by(due, "drags 0;holds 5;bumps 0;");
         due.same("23: 10 a tenth for nothing", 29, x.change(0));
         due.same("23: 9 to change", 29, x.change(9));
         due.same("23: 10 to change", 28, x.change(10));
@@ -347,10 +336,10 @@ public final class HoldingBoundsTest {
         due.same("23: 10 a tenth: not above", -1, x.change(1000));
         due.same("23: the dearest", -1, x.change(9999));
         due.same("23: it costs nothing, nor does changing", -1, new PullsToTheLeft().change(0));
-        x = by("drags 0;holds 99*(tenth=0);bumps 0;");
+        x = Made.by(due, "drags 0;holds 99*(tenth=0);bumps 0;");
         due.same("23: all in the first tenth", 0, x.change(617));
         due.same("23: not above", -1, x.change(618));
-        x = by("drags 0;holds 99*(tenth=29);bumps 0;");
+        x = Made.by(due, "drags 0;holds 99*(tenth=29);bumps 0;");
         due.same("23: all in the last tenth", 29, x.change(9998));
         due.same("23: 99 and 99 are not below", -1, x.change(9999));
     }
@@ -358,8 +347,8 @@ public final class HoldingBoundsTest {
     private static void turnedFromLeastToMost() {
         due.same("24: of a new one", 0, new PullsToTheLeft().turned());
         for (int w = 0; w < 4; w++) {
-            PullsToTheLeft x = by("drags load*(wheel=" + w + ");holds 0;bumps 0;");
-            allWide(x, 99);
+            PullsToTheLeft x = Made.by(due, "drags load*(wheel=" + w + ");holds 0;bumps 0;");
+            Made.allWide(x, 99);
             x.set(3, 0, 9);
             x.set(0, 2 * w, 40);
             x.set(0, 2 * w + 1, 40);

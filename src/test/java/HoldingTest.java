@@ -18,13 +18,6 @@ public final class HoldingTest {
         due.end();
     }
 
-    private static PullsToTheLeft by(String text) {
-        PullsToTheLeft x = new PullsToTheLeft();
-        due.same(text, 1, Due.read(x, text));
-        x.force(1);
-        return x;
-    }
-
     private static void straightHoldExact() {
         PullsToTheLeft x = new PullsToTheLeft();
         x.set(1, 0, 7);
@@ -51,7 +44,7 @@ public final class HoldingTest {
         // 38 to the left, 27 at most to the right: 11 times 3 by 8 is 4 a tenth.
         due.same("straight(0)", 0, x.straight(0));
         due.same("straight(1)", 20, x.straight(1));
-        for (int t = 0; t < 30; t++) x.set(4, t, 99);
+        Made.allWide(x, 99);
         due.same("straight(0)", 0, x.straight(0));
         x.set(3, 0, 1);
         due.same("the strongest first", 80, x.straight(0));
@@ -68,19 +61,19 @@ public final class HoldingTest {
         due.same("straight", 0, x.straight(0));
         due.same("hold", 0, x.hold(0));
         due.same("exact", 0, x.exact());
-        x = by("drags 0;holds 9-hand;bumps 99;");
+        x = Made.by(due, "drags 0;holds 9-hand;bumps 99;");
         due.same("held firmly it costs nothing", 99, x.hold(0));
         due.same("cost", 0, x.hold(1));
-        x = by("drags 0;holds 99*(hand<4);bumps 99;");
+        x = Made.by(due, "drags 0;holds 99*(hand<4);bumps 99;");
         due.same("the first of them", 44, x.hold(0));
-        x = by("drags (wheel=1)*9+(wheel=3)*9;holds 0;bumps 5;");
+        x = Made.by(due, "drags (wheel=1)*9+(wheel=3)*9;holds 0;bumps 5;");
         due.same("18 to the right: 6 on the right hand", 6, x.exact());
         due.same("straight", 6, x.straight(0));
-        x = by("drags hand*3*(wheel<2)+6*(wheel=3);holds 0;bumps 5;");
+        x = Made.by(due, "drags hand*3*(wheel<2)+6*(wheel=3);holds 0;bumps 5;");
         due.same("by the hands alone it can't be", -1, x.exact());
-        x = by("drags hand*2*(wheel<2)+(wheel=3)*2;holds 0;bumps 5;");
+        x = Made.by(due, "drags hand*2*(wheel<2)+(wheel=3)*2;holds 0;bumps 5;");
         due.same("3 * (r - l) + 2 * (l - r) - 2", 2, x.exact());
-        x = by("drags (wheel=0)*3*(tenth=29);holds 0;bumps 5;");
+        x = Made.by(due, "drags (wheel=0)*3*(tenth=29);holds 0;bumps 5;");
         due.same("0 in all tenths but one", -1, x.exact());
     }
 
@@ -136,7 +129,7 @@ public final class HoldingTest {
         x = new PullsToTheLeft();
         x.set(3, 0, 4);
         x.wheel(0, 2, 4);
-        for (int t = 0; t < 30; t++) x.set(4, t, 99);
+        Made.allWide(x, 99);
         x.set(0, 5, 5);
         x.set(0, 6, 3);
         // 13 to the left: less 8 by changing these, less 20 by taking 5 across, 12 more by 3.
@@ -160,7 +153,7 @@ public final class HoldingTest {
         due.same("farthest", 20, x.lay(1));
         x.wheel(0, 2, 9);
         x.set(3, 0, 1);
-        for (int t = 0; t < 30; t++) x.set(4, t, 99);
+        Made.allWide(x, 99);
         // 19 to the left, less 10, less 10.
         due.same("both to the right", 34125678, x.lay(0));
         due.same("farthest", 0, x.lay(1));
@@ -171,7 +164,7 @@ public final class HoldingTest {
     private static void layInAWideAisle() {
         PullsToTheLeft x = new PullsToTheLeft();
         x.set(3, 0, 4);
-        for (int t = 0; t < 30; t++) x.set(4, t, 99);
+        Made.allWide(x, 99);
         x.set(0, 0, 3);
         x.set(0, 1, 5);
         due.same("the heaviest first", 13245678, x.lay(0));
@@ -190,13 +183,13 @@ public final class HoldingTest {
         due.same("3 times 3 by 8 is 1 a tenth", 2, x.quick());
         x.wheel(0, 2, 9);
         due.same("19 by 8 is 2 a tenth", -1, x.quick());
-        for (int t = 0; t < 30; t++) x.set(4, t, 60);
+        Made.allWide(x, 60);
         due.same("just as wide", 1, x.quick());
-        x = by("drags 9*(wheel=0)*(pace<6);holds 0;bumps 0;");
+        x = Made.by(due, "drags 9*(wheel=0)*(pace<6);holds 0;bumps 0;");
         due.same("only when it is quick", 9, x.quick());
-        x = by("drags 99*(wheel=0)*(not pace=5);holds 0;bumps 0;");
+        x = Made.by(due, "drags 99*(wheel=0)*(not pace=5);holds 0;bumps 0;");
         due.same("only then", 5, x.quick());
-        x = by("drags 99*(wheel=0)*(not pace=1)*(tenth=29);holds 0;bumps 0;");
+        x = Made.by(due, "drags 99*(wheel=0)*(not pace=1)*(tenth=29);holds 0;bumps 0;");
         due.same("the last tenth, too", 1, x.quick());
     }
 
@@ -211,15 +204,15 @@ public final class HoldingTest {
         due.same("always above more", 1, x.flutters());
         x.set(2, 0, 2);
         due.same("6 against it is not below 0", 2, x.flutters());
-        x = by("drags (wheel=0)*(tenth=29)+(wheel=1)*(tenth<29);holds 0;bumps 0;");
+        x = Made.by(due, "drags (wheel=0)*(tenth=29)+(wheel=1)*(tenth<29);holds 0;bumps 0;");
         due.same("below 0, then above", -1, x.flutters());
-        x = by("drags (wheel=1)*(tenth=29)+(wheel=0)*(tenth<29);holds 0;bumps 0;");
+        x = Made.by(due, "drags (wheel=1)*(tenth=29)+(wheel=0)*(tenth<29);holds 0;bumps 0;");
         due.same("above 0, then below", 1, x.flutters());
-        x = by("drags (wheel=1)*(tenth=29)+(wheel=0)*(tenth<28);holds 0;bumps 0;");
+        x = Made.by(due, "drags (wheel=1)*(tenth=29)+(wheel=0)*(tenth<28);holds 0;bumps 0;");
         due.same("not in the next one", -1, x.flutters());
-        x = by("drags (wheel=1)*(tenth=1)+(wheel=0)*(pace=9);holds 0;bumps 0;");
+        x = Made.by(due, "drags (wheel=1)*(tenth=1)+(wheel=0)*(pace=9);holds 0;bumps 0;");
         due.same("0 in the next one", -1, x.flutters());
-        x = by("drags 2*(wheel=1)*(tenth=1)+(wheel=0)*(pace=9);holds 0;bumps 0;");
+        x = Made.by(due, "drags 2*(wheel=1)*(tenth=1)+(wheel=0)*(pace=9);holds 0;bumps 0;");
         due.same("the greatest pace", 9, x.flutters());
     }
 
@@ -241,7 +234,7 @@ public final class HoldingTest {
         x.set(1, 0, 1);
         x.set(2, 0, 1);
         due.same("holding, too", 60, x.mend(1));
-        x = by("drags more*8*(wheel=3);holds 0;bumps 5;");
+        x = Made.by(due, "drags more*8*(wheel=3);holds 0;bumps 5;");
         x.wheel(3, 0, 3);
         due.same("more becomes 0, too", 3, x.mend(0));
         due.same("more becomes 0, too", 0, x.mend(1));
@@ -265,9 +258,9 @@ public final class HoldingTest {
         due.same("dearest", -1, x.change(9999));
         due.same("BAD", -2, x.change(-1));
         due.same("BAD", -2, x.change(10000));
-        x = by("drags 0;holds 60*(tenth=0);bumps 0;");
+        x = Made.by(due, "drags 0;holds 60*(tenth=0);bumps 0;");
         due.same("the first tenth", 0, x.change(99));
-        x = by("drags 0;holds 0;bumps 99*(tenth=20);");
+        x = Made.by(due, "drags 0;holds 0;bumps 99*(tenth=20);");
         x.set(2, 0, 1);
         due.same("a bump", 20, x.change(98));
         due.same("no more than that", -1, x.change(99));
@@ -291,11 +284,11 @@ public final class HoldingTest {
         due.same("behind", -20, x.turned());
         x.set(0, 2, 1);
         due.same("crosswise", 0, x.turned());
-        x = by("drags load*(wheel=1);holds 0;bumps 0;");
+        x = Made.by(due, "drags load*(wheel=1);holds 0;bumps 0;");
         x.set(3, 0, 8);
         x.set(0, 0, 2);
         x.set(0, 4, 9);
-        for (int t = 0; t < 30; t++) x.set(4, t, 70);
+        Made.allWide(x, 70);
         due.same("front with front", 60, x.turned());
     }
 

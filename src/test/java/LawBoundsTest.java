@@ -278,7 +278,10 @@ public final class LawBoundsTest {
 
     private static void nothingBehindTheText() {
         String text = "drags 1;holds 1;bumps 1;";
-        String[] more = {"0", "9999", "load", "wheel", "drags", "bumps", "or", "not", "(", ")", ";", "+", "-", "*", "<", "=", "?", "foo", "00000"};
+        String[] more = {
+            "0", "9999", "load", "wheel", "drags", "bumps", "or", "not",
+            "(", ")", ";", "+", "-", "*", "<", "=", "?", "foo", "00000"
+        };
         for (String behind : more) {
             due.same("4: " + behind + " behind the text", -124, read(text + behind));
             due.same("4: " + behind + " behind the text and blanks", -126, read(text + " \n" + behind));

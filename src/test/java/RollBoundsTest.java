@@ -36,17 +36,6 @@ public final class RollBoundsTest {
         due.end();
     }
 
-    private static PullsToTheLeft by(String text) {
-        PullsToTheLeft x = new PullsToTheLeft();
-        due.same(text, 1, Due.read(x, text));
-        x.force(1);
-        return x;
-    }
-
-    private static void allWide(PullsToTheLeft x, int wide) {
-        for (int t = 0; t < 30; t++) x.set(4, t, wide);
-    }
-
     /** By text 0, the other wheels being plain ones without loads. */
     private static int dragOfLeftWheel(PullsToTheLeft x, int t) {
         return x.at(t, 0) + 2;
@@ -149,7 +138,7 @@ public final class RollBoundsTest {
         int[] paces = {7, 8, 9, 3, 8, 1, 8};
         int[] steps = {0, 1, 1, 1, 2, 2, 3};
         for (int i = 0; i < pulls.length; i++) {
-            PullsToTheLeft x = by("drags " + pulls[i] + "*(wheel=0);holds 0;bumps 0;");
+            PullsToTheLeft x = Made.by(due, "drags " + pulls[i] + "*(wheel=0);holds 0;bumps 0;");
             x.set(3, 0, paces[i]);
             due.same(pulls[i] + " times " + paces[i] + " by 8", -steps[i], x.at(0, 1));
             Due.read(x, "drags " + pulls[i] + "*(wheel=1);holds 0;bumps 0;");
@@ -160,10 +149,10 @@ public final class RollBoundsTest {
 
     private static void justAsWideAndOneBeyond() {
         for (int w = 0; w < 2; w++) {
-            PullsToTheLeft x = by("drags 40*(wheel=" + w + ");holds 0;bumps 9;");
+            PullsToTheLeft x = Made.by(due, "drags 40*(wheel=" + w + ");holds 0;bumps 9;");
             x.set(3, 0, 1);
             int side = w == 0 ? -1 : 1;
-            allWide(x, 99);
+            Made.allWide(x, 99);
             due.same("5 aside", side * 5, x.at(0, 1));
             x.set(4, 0, 5);
             due.same("just as wide", 0, x.roll(2) & 1);
@@ -180,7 +169,7 @@ public final class RollBoundsTest {
     }
 
     private static void asWideAsCanBe() {
-        PullsToTheLeft x = by("drags 99*(wheel=1);holds 0;bumps 9;");
+        PullsToTheLeft x = Made.by(due, "drags 99*(wheel=1);holds 0;bumps 9;");
         x.set(3, 0, 8);
         x.set(4, 0, 99);
         due.same("99 aside", 99, x.at(0, 1));
@@ -188,7 +177,7 @@ public final class RollBoundsTest {
         x.wheel(1, 1, 1);
         due.same("100 aside", 99, x.at(0, 1));
         due.same("is beyond 99", 1, x.roll(2) & 1);
-        x = by("drags 8*(wheel=0);holds 0;bumps 9;");
+        x = Made.by(due, "drags 8*(wheel=0);holds 0;bumps 9;");
         x.set(3, 0, 1);
         x.set(4, 0, 1);
         due.same("1 aside", -1, x.at(0, 1));
@@ -199,7 +188,7 @@ public final class RollBoundsTest {
     }
 
     private static void beyondIs99AtMost() {
-        PullsToTheLeft x = by("drags 99*(wheel=1);holds 0;bumps (tenth=0)*(load-50);");
+        PullsToTheLeft x = Made.by(due, "drags 99*(wheel=1);holds 0;bumps (tenth=0)*(load-50);");
         x.set(3, 0, 8);
         x.set(4, 0, 1);
         due.same("98 beyond", 48, x.roll(1));
@@ -210,8 +199,8 @@ public final class RollBoundsTest {
         x.wheel(1, 1, 9);
         loadOver(x, 1, 80);
         due.same("far beyond", 49, x.roll(1));
-        x = by("drags 0;holds 0;bumps load;");
-        allWide(x, 99);
+        x = Made.by(due, "drags 0;holds 0;bumps load;");
+        Made.allWide(x, 99);
         x.set(1, 0, 1);
         x.set(3, 0, 8);
         x.set(4, 0, 3);
@@ -221,12 +210,12 @@ public final class RollBoundsTest {
     }
 
     private static void bumpsOnEitherSide() {
-        PullsToTheLeft x = by("drags 0;holds 0;bumps 10+wheel+50*(hand+more);");
+        PullsToTheLeft x = Made.by(due, "drags 0;holds 0;bumps 10+wheel+50*(hand+more);");
         for (int w = 0; w < 4; w++) x.wheel(w, 0, 9);
         x.set(1, 0, 9);
         x.set(2, 0, 5);
         x.set(3, 0, 8);
-        allWide(x, 99);
+        Made.allWide(x, 99);
         x.set(4, 0, 11);
         // 12 a tenth to the right: 11, 23, .., 95, then always beyond.
         due.same("to the right", 11 * 23, x.roll(1));
@@ -238,7 +227,7 @@ public final class RollBoundsTest {
         int[] said = {-9999, -1, 0, 1, 98, 99, 100, 9999};
         int[] drags = {0, 0, 0, 1, 98, 99, 99, 99};
         for (int i = 0; i < said.length; i++) {
-            PullsToTheLeft x = by("drags (wheel=2)*" + said[i] + ";holds 0;bumps 0;");
+            PullsToTheLeft x = Made.by(due, "drags (wheel=2)*" + said[i] + ";holds 0;bumps 0;");
             due.same("drags " + said[i], drags[i], x.at(0, 0));
         }
     }
@@ -247,9 +236,9 @@ public final class RollBoundsTest {
         int[] said = {-9999, -1, 0, 1, 98, 99, 100, 9999};
         int[] holds = {0, 0, 0, 1, 98, 99, 99, 99};
         for (int i = 0; i < said.length; i++) {
-            PullsToTheLeft x = by("drags 0;holds (wheel=1)*" + said[i] + ";bumps 0;");
+            PullsToTheLeft x = Made.by(due, "drags 0;holds (wheel=1)*" + said[i] + ";bumps 0;");
             due.same("holds " + said[i], 30 * holds[i], x.roll(0));
-            x = by("drags 0;holds " + said[i] + ";bumps 0;");
+            x = Made.by(due, "drags 0;holds " + said[i] + ";bumps 0;");
             due.same("each hand for itself", 60 * holds[i], x.roll(0));
         }
     }
@@ -258,8 +247,8 @@ public final class RollBoundsTest {
         int[] said = {-9999, -1, 0, 1, 98, 99, 100, 9999};
         int[] bumps = {0, 0, 0, 1, 98, 99, 99, 99};
         for (int i = 0; i < said.length; i++) {
-            PullsToTheLeft x = by("drags 0;holds 0;bumps " + said[i] + ";");
-            allWide(x, 1);
+            PullsToTheLeft x = Made.by(due, "drags 0;holds 0;bumps " + said[i] + ";");
+            Made.allWide(x, 1);
             x.set(1, 0, 9);
             due.same("bumps " + said[i], 30 * bumps[i], x.roll(1));
             due.same("whatever it says, it bumps", (1 << 30) - 1, x.roll(2));
@@ -267,7 +256,7 @@ public final class RollBoundsTest {
     }
 
     private static void loadsOf0And80() {
-        PullsToTheLeft x = by("drags (wheel=2)*(load+9);holds load;bumps 0;");
+        PullsToTheLeft x = Made.by(due, "drags (wheel=2)*(load+9);holds load;bumps 0;");
         due.same("load 0", 9, x.at(0, 0));
         loadOver(x, 2, 80);
         due.same("load 80", 89, x.at(0, 0));
@@ -275,7 +264,7 @@ public final class RollBoundsTest {
     }
 
     private static void handsHaveNeitherLoadNorMore() {
-        PullsToTheLeft x = by("drags 0;holds 1+load+more;bumps 0;");
+        PullsToTheLeft x = Made.by(due, "drags 0;holds 1+load+more;bumps 0;");
         for (int w = 0; w < 4; w++) {
             x.wheel(w, 0, 9);
             loadOver(x, w, 80);
@@ -284,14 +273,14 @@ public final class RollBoundsTest {
     }
 
     private static void tenthsNamedAnywhere() {
-        PullsToTheLeft x = by("drags tenth*(wheel=0);holds 0;bumps 0;");
+        PullsToTheLeft x = Made.by(due, "drags tenth*(wheel=0);holds 0;bumps 0;");
         due.same("named first", 29, x.at(29, 0));
         due.same("not yet", 0, x.at(0, 0));
-        x = by("drags 0;holds tenth;bumps 0;");
+        x = Made.by(due, "drags 0;holds tenth;bumps 0;");
         due.same("named by holds alone", 870, x.roll(0));
-        x = by("drags 0;holds 0;bumps tenth;");
+        x = Made.by(due, "drags 0;holds 0;bumps tenth;");
         x.set(1, 0, 9);
-        allWide(x, 1);
+        Made.allWide(x, 1);
         due.same("named by bumps alone", 435, x.roll(1));
     }
 
@@ -305,7 +294,7 @@ public final class RollBoundsTest {
     }
 
     private static void atTheFirstAndTheLast() {
-        PullsToTheLeft x = by("drags (wheel=0)*(1+tenth);holds 0;bumps 0;");
+        PullsToTheLeft x = Made.by(due, "drags (wheel=0)*(1+tenth);holds 0;bumps 0;");
         x.set(3, 0, 8);
         due.same("12: pull in the first", 1, x.at(0, 0));
         due.same("12: aside behind the first", -1, x.at(0, 1));
@@ -330,14 +319,14 @@ public final class RollBoundsTest {
     }
 
     private static void rollOfAllThatCanBe() {
-        PullsToTheLeft x = by("drags 99*(wheel=1);holds 99;bumps 99;");
-        allWide(x, 1);
+        PullsToTheLeft x = Made.by(due, "drags 99*(wheel=1);holds 99;bumps 99;");
+        Made.allWide(x, 1);
         due.same("13: holding, at most", 30 * 198, x.roll(0));
         due.same("13: bumps, at most", 30 * 99, x.roll(1));
         due.same("13: in all tenths", 1073741823, x.roll(2));
         due.same("13: farthest, just wide", 1, x.roll(3));
         due.same("13: at the end", 1, x.roll(4));
-        allWide(x, 99);
+        Made.allWide(x, 99);
         due.same("13: farthest, at most", 99, x.roll(3));
         x.set(4, 29, 1);
         due.same("13: behind any of them", 99, x.roll(3));
@@ -346,9 +335,9 @@ public final class RollBoundsTest {
 
     /** 2 a tenth to the left, in an aisle of 99. */
     private static PullsToTheLeft slowly() {
-        PullsToTheLeft x = by("drags 16*(wheel=0);holds 0;bumps 5+tenth;");
+        PullsToTheLeft x = Made.by(due, "drags 16*(wheel=0);holds 0;bumps 5+tenth;");
         x.set(3, 0, 1);
-        allWide(x, 99);
+        Made.allWide(x, 99);
         return x;
     }
 

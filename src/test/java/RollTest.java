@@ -121,56 +121,49 @@ public final class RollTest {
         x.set(2, 0, 3);
         due.same("to the left", -2, x.at(0, 1));
         due.same("to the left", -20, x.roll(4));
-        for (int t = 0; t < 30; t++) x.set(4, t, 99);
+        Made.allWide(x, 99);
         due.same("farthest is without sign", 90, x.roll(3));
         due.same("it bumps nowhere", 0, x.roll(2));
         due.same("bumps", 0, x.roll(1));
     }
 
-    private static PullsToTheLeft by(String text) {
-        PullsToTheLeft x = new PullsToTheLeft();
-        due.same(text, 1, Due.read(x, text));
-        x.force(1);
-        return x;
-    }
-
     private static void namesOfDrags() {
-        PullsToTheLeft x = by("drags hand*8;holds 0;bumps 0;");
+        PullsToTheLeft x = Made.by(due, "drags hand*8;holds 0;bumps 0;");
         x.set(1, 0, 1);
         x.set(2, 0, 3);
         due.same("hand", 6 + 16 - 48, pull(x, 0));
-        x = by("drags (wheel=2)*pace;holds 0;bumps 0;");
+        x = Made.by(due, "drags (wheel=2)*pace;holds 0;bumps 0;");
         due.same("pace of wheel 2", 3, pull(x, 0));
         x.set(3, 0, 8);
         due.same("pace of wheel 2", 8, pull(x, 0));
-        x = by("drags wheel*wheel;holds 0;bumps 0;");
+        x = Made.by(due, "drags wheel*wheel;holds 0;bumps 0;");
         due.same("wheel", 0 - 1 + 4 - 9, pull(x, 0));
-        x = by("drags more;holds 0;bumps 0;");
+        x = Made.by(due, "drags more;holds 0;bumps 0;");
         x.wheel(3, 0, 7);
         x.wheel(0, 0, 2);
         due.same("more", 2 - 7, pull(x, 0));
-        x = by("drags load;holds 0;bumps 0;");
+        x = Made.by(due, "drags load;holds 0;bumps 0;");
         x.set(0, 6, 30);
         x.set(0, 7, 31);
         due.same("load", -61, pull(x, 0));
     }
 
     private static void namesOfHolds() {
-        PullsToTheLeft x = by("drags 0;holds hand+10*wheel;bumps 0;");
+        PullsToTheLeft x = Made.by(due, "drags 0;holds hand+10*wheel;bumps 0;");
         x.set(1, 0, 2);
         x.set(2, 0, 3);
         due.same("holding", 30 * (2 + 13), x.roll(0));
-        x = by("drags 0;holds load+more+pace;bumps 0;");
+        x = Made.by(due, "drags 0;holds load+more+pace;bumps 0;");
         x.wheel(0, 0, 9);
         x.wheel(1, 0, 9);
         x.set(0, 0, 40);
         due.same("load and more are 0", 30 * (3 + 3), x.roll(0));
-        x = by("drags 0;holds tenth;bumps 0;");
+        x = Made.by(due, "drags 0;holds tenth;bumps 0;");
         due.same("tenth", 2 * 435, x.roll(0));
     }
 
     private static void namesOfBumps() {
-        PullsToTheLeft x = by("drags 0;holds 0;bumps load+50*wheel;");
+        PullsToTheLeft x = Made.by(due, "drags 0;holds 0;bumps load+50*wheel;");
         x.set(1, 0, 9);
         x.set(3, 0, 8);
         x.set(4, 0, 5);
@@ -180,16 +173,16 @@ public final class RollTest {
         x.set(1, 0, 0);
         x.set(2, 0, 9);
         due.same("to the left", 22 + 14 + 25 * 27, x.roll(1));
-        x = by("drags 0;holds 0;bumps hand+more+pace;");
+        x = Made.by(due, "drags 0;holds 0;bumps hand+more+pace;");
         x.wheel(0, 0, 9);
         x.wheel(1, 0, 9);
         x.set(2, 0, 9);
         // 10 a tenth: just 20 behind two, beyond in each of the other 28.
         due.same("pace alone", 28 * 3, x.roll(1));
-        x = by("drags 0;holds 0;bumps tenth;");
+        x = Made.by(due, "drags 0;holds 0;bumps tenth;");
         x.set(2, 0, 1);
         due.same("tenth", 20 + 21 + 22 + 23 + 24 + 25 + 26 + 27 + 28 + 29, x.roll(1));
-        x = by("drags 99*(wheel=1);holds 0;bumps load;");
+        x = Made.by(due, "drags 99*(wheel=1);holds 0;bumps load;");
         x.wheel(1, 1, 9);
         x.set(0, 2, 40);
         x.set(0, 3, 40);
@@ -201,16 +194,16 @@ public final class RollTest {
     }
 
     private static void tenthsInTexts() {
-        PullsToTheLeft x = by("drags (wheel=0)*tenth;holds 0;bumps 0;");
+        PullsToTheLeft x = Made.by(due, "drags (wheel=0)*tenth;holds 0;bumps 0;");
         for (int t = 0; t < 30; t++) due.same("tenth " + t, t, pull(x, t));
         due.same("aside", -(0 + 0 + 0 + 1 + 1 + 1 + 2), x.at(6, 1));
-        x = by("drags 0;holds 0;bumps 7*(tenth<25);");
+        x = Made.by(due, "drags 0;holds 0;bumps 7*(tenth<25);");
         x.set(2, 0, 1);
         due.same("bumps", 5 * 7, x.roll(1));
     }
 
     private static void bounds() {
-        PullsToTheLeft x = by("drags (wheel=0)*150-(wheel=1)*150;holds 100*(wheel=1)-9;bumps 0-5;");
+        PullsToTheLeft x = Made.by(due, "drags (wheel=0)*150-(wheel=1)*150;holds 100*(wheel=1)-9;bumps 0-5;");
         due.same("99 at most, 0 at least", 99, pull(x, 0));
         due.same("holding", 30 * 91, x.roll(0));
         due.same("bumps", 0, x.roll(1));

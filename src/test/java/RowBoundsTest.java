@@ -51,15 +51,6 @@ public final class RowBoundsTest {
         due.end();
     }
 
-    private static PullsToTheLeft row(int looks, int bears, int away, int... bad) {
-        PullsToTheLeft x = new PullsToTheLeft();
-        for (int b : bad) x.come(b);
-        x.rule(1, 0, looks);
-        x.rule(2, 0, bears);
-        x.rule(3, 0, away);
-        return x;
-    }
-
     private static void comeRanges() {
         bounds.range("31: come", -2, 0, 99, (x, v) -> x.come(v));
         full.outside("31: come, BAD ahead of FULL", -2, 0, 99, (x, v) -> x.come(v));
@@ -131,47 +122,47 @@ public final class RowBoundsTest {
     /** The later one stands, the less bad it is: so bad is the best of those that are looked at. */
     private static void looksFrom1To8() {
         for (int looks = 1; looks <= 8; looks++) {
-            PullsToTheLeft x = row(looks, 0, 5, 90, 80, 70, 60, 50, 40, 30, 20);
+            PullsToTheLeft x = Made.row(looks, 0, 5, 90, 80, 70, 60, 50, 40, 30, 20);
             due.same("looks " + looks, 100 - 10 * looks, x.meets(1, 0));
             due.same("looks " + looks, 1 << (looks - 1), x.meets(1, 2));
-            x = row(looks, 20, 5, 90, 80, 70, 60, 50, 40, 20, 20);
+            x = Made.row(looks, 20, 5, 90, 80, 70, 60, 50, 40, 20, 20);
             due.same("borne, if it is looked at", looks == 8 ? 20 : 100 - 10 * looks - (looks == 7 ? 10 : 0), x.meets(1, 0));
         }
     }
 
     private static void looksAtAllIfThereAreFewer() {
-        PullsToTheLeft x = row(8, 0, 5, 3, 2);
+        PullsToTheLeft x = Made.row(8, 0, 5, 3, 2);
         due.same("the best of two", 2, x.meets(1, 0));
         due.same("then the only one", 5, x.meets(2, 0));
         due.same("then none", 5, x.meets(3, 0));
-        x = row(2, 0, 5, 9);
+        x = Made.row(2, 0, 5, 9);
         due.same("the only one", 9, x.meets(1, 0));
-        due.same("both are looked at", 9, row(3, 0, 5, 10, 9).meets(1, 0));
+        due.same("both are looked at", 9, Made.row(3, 0, 5, 10, 9).meets(1, 0));
     }
 
     private static void bearsJustThatMuch() {
         for (int bears : new int[] {0, 1, 30, 98, 99}) {
             int beyond = Math.min(99, bears + 1);
-            due.same("just bears " + bears, bears, row(2, bears, 5, bears, 0).meets(1, 0));
-            if (beyond > bears) due.same("1 more is too bad", 0, row(2, bears, 5, beyond, 0).meets(1, 0));
+            due.same("just bears " + bears, bears, Made.row(2, bears, 5, bears, 0).meets(1, 0));
+            if (beyond > bears) due.same("1 more is too bad", 0, Made.row(2, bears, 5, beyond, 0).meets(1, 0));
         }
-        due.same("bears 99: the first in any case", 99, row(8, 99, 5, 99, 0).meets(1, 0));
-        due.same("bears 0: the first that is 0", 4, row(8, 0, 5, 5, 1, 0, 0).meets(1, 2));
-        due.same("the first that is borne, not the best", 2, row(8, 30, 5, 31, 30, 29).meets(1, 2));
+        due.same("bears 99: the first in any case", 99, Made.row(8, 99, 5, 99, 0).meets(1, 0));
+        due.same("bears 0: the first that is 0", 4, Made.row(8, 0, 5, 5, 1, 0, 0).meets(1, 2));
+        due.same("the first that is borne, not the best", 2, Made.row(8, 30, 5, 31, 30, 29).meets(1, 2));
     }
 
     private static void leastBadOfLikeOnes() {
-        due.same("of like ones the first", 1, row(8, 0, 5, 9, 9, 9).meets(1, 2));
-        due.same("of like ones the first", 2, row(8, 0, 5, 10, 9, 9).meets(1, 2));
-        due.same("the last is less bad", 4, row(8, 0, 5, 10, 9, 8).meets(1, 2));
-        due.same("99 and 98", 2, row(8, 97, 5, 99, 98).meets(1, 2));
+        due.same("of like ones the first", 1, Made.row(8, 0, 5, 9, 9, 9).meets(1, 2));
+        due.same("of like ones the first", 2, Made.row(8, 0, 5, 10, 9, 9).meets(1, 2));
+        due.same("the last is less bad", 4, Made.row(8, 0, 5, 10, 9, 8).meets(1, 2));
+        due.same("99 and 98", 2, Made.row(8, 97, 5, 99, 98).meets(1, 2));
     }
 
     /** One trolley, so bad as 1: how often it is met tells when it was back. */
     private static void dueAgainByAway() {
         int[] in24 = {24, 12, 8, 6, 5, 4};
         for (int away = 0; away <= 5; away++) {
-            PullsToTheLeft x = row(1, 30, away, 1);
+            PullsToTheLeft x = Made.row(1, 30, away, 1);
             due.same("met once by guest 0", 1, x.meets(1, 0));
             due.same("not yet back, away " + away, 1, x.meets(1 + away, 0));
             due.same("back, away " + away, 2, x.meets(2 + away, 0));
@@ -183,11 +174,11 @@ public final class RowBoundsTest {
 
     private static void noneStandsThere() {
         for (int away = 0; away <= 5; away++) {
-            PullsToTheLeft x = row(8, 99, away);
+            PullsToTheLeft x = Made.row(8, 99, away);
             due.same("nobody at all", 0, x.meets(24, 0));
             due.same("nobody at all", -1, x.meets(24, 3));
         }
-        PullsToTheLeft x = row(1, 0, 5, 10, 20);
+        PullsToTheLeft x = Made.row(1, 0, 5, 10, 20);
         due.same("guests 2 to 5 meet none", 30, x.meets(6, 0));
         due.same("guest 6 does", 40, x.meets(7, 0));
         due.same("guest 7, too", 60, x.meets(8, 0));
@@ -196,7 +187,7 @@ public final class RowBoundsTest {
     }
 
     private static void behindAllOfThemAllAre() {
-        PullsToTheLeft x = row(1, 0, 5, 1, 2, 3);
+        PullsToTheLeft x = Made.row(1, 0, 5, 1, 2, 3);
         due.same("behind no guest", 0, x.meets(0, 3));
         due.same("behind one", 1, x.meets(1, 3));
         due.same("behind two", 2, x.meets(2, 3));
@@ -219,7 +210,7 @@ public final class RowBoundsTest {
     }
 
     private static void meetsFromNoneTo24() {
-        PullsToTheLeft x = row(1, 0, 0, 99, 99, 99, 99, 99, 99, 99, 99);
+        PullsToTheLeft x = Made.row(1, 0, 0, 99, 99, 99, 99, 99, 99, 99, 99);
         for (int n = 0; n <= 24; n++) {
             due.same("33: bad of all", 99 * n, x.meets(n, 0));
             due.same("33: the most", n == 0 ? 0 : 99, x.meets(n, 1));
@@ -231,7 +222,7 @@ public final class RowBoundsTest {
             due.same("33: of fewer again, the most", n == 0 ? 0 : 99, x.meets(n, 1));
             due.same("33: of fewer again, which", (1 << Math.min(8, n)) - 1, x.meets(n, 2));
         }
-        x = row(1, 0, 0);
+        x = Made.row(1, 0, 0);
         for (int what = 0; what < 4; what++) due.same("33: no trolleys", what == 3 ? -1 : 0, x.meets(24, what));
     }
 
@@ -245,7 +236,7 @@ public final class RowBoundsTest {
 
     private static void dayTruly() {
         for (int n = 0; n <= 24; n++) {
-            PullsToTheLeft x = row(2, 15, 3, 40, 10, 20, 30, 15);
+            PullsToTheLeft x = Made.row(2, 15, 3, 40, 10, 20, 30, 15);
             int front = x.meets(n, 3);
             due.same("34: in front at last", front, x.day(n));
             due.same("34: truly", front, x.stands(0));
@@ -282,16 +273,16 @@ public final class RowBoundsTest {
     }
 
     private static void shareInLowestTerms() {
-        share(row(1, 0, 0, 99), 24, 0, 1);
-        share(row(1, 0, 5, 0, 0), 24, 0, 1);
+        share(Made.row(1, 0, 0, 99), 24, 0, 1);
+        share(Made.row(1, 0, 5, 0, 0), 24, 0, 1);
         // 4 times 99 by 24, less 99.
-        share(row(1, 0, 5, 99), 24, -165, 2);
+        share(Made.row(1, 0, 5, 99), 24, -165, 2);
         // 4 by 23, less 1 by 7: nothing to cut.
-        share(row(1, 0, 0, 1, 0, 0, 0, 0, 0, 0), 23, 5, 161);
-        share(row(1, 0, 0, 99, 0, 0, 0, 0, 0, 0, 0), 1, 693, 8);
-        share(row(1, 0, 0, 0, 0, 0, 0, 0, 0, 0, 99), 1, -99, 8);
-        share(row(1, 0, 0, 0, 0, 0, 0, 0, 0, 0, 99), 24, 0, 1);
-        share(row(1, 0, 0, 4, 2), 1, 1, 1);
+        share(Made.row(1, 0, 0, 1, 0, 0, 0, 0, 0, 0), 23, 5, 161);
+        share(Made.row(1, 0, 0, 99, 0, 0, 0, 0, 0, 0, 0), 1, 693, 8);
+        share(Made.row(1, 0, 0, 0, 0, 0, 0, 0, 0, 0, 99), 1, -99, 8);
+        share(Made.row(1, 0, 0, 0, 0, 0, 0, 0, 0, 0, 99), 24, 0, 1);
+        share(Made.row(1, 0, 0, 4, 2), 1, 1, 1);
     }
 
     private static void bestRanges() {
@@ -308,7 +299,7 @@ public final class RowBoundsTest {
         due.same("37: no trolleys", 1, x.best(24, 0));
         due.same("37: no trolleys", 0, x.best(24, 1));
         for (int place = 1; place <= 8; place++) {
-            x = row(1, 0, 5);
+            x = Made.row(1, 0, 5);
             for (int t = 1; t <= 8; t++) x.come(t == place ? 1 : 50);
             due.same("37: no guest", 1, x.best(0, 0));
             due.same("37: no guest", 0, x.best(0, 1));
@@ -330,17 +321,17 @@ public final class RowBoundsTest {
 
     private static void firstOrLastTrolley() {
         for (int worst = 0; worst < 8; worst++) {
-            PullsToTheLeft x = row(1, 0, 5);
+            PullsToTheLeft x = Made.row(1, 0, 5);
             for (int t = 0; t < 8; t++) x.come(t == worst ? 99 : 98);
             due.same("38: the worst of 8 that are met", worst, x.first(8, 0));
             due.same("38: that", 7 * 98, x.first(8, 1));
         }
-        due.same("38: of like ones the first", 0, row(1, 0, 5, 7, 7).first(2, 0));
-        due.same("38: that", 7, row(1, 0, 5, 7, 7).first(2, 1));
+        due.same("38: of like ones the first", 0, Made.row(1, 0, 5, 7, 7).first(2, 0));
+        due.same("38: that", 7, Made.row(1, 0, 5, 7, 7).first(2, 1));
     }
 
     private static void firstIfLess() {
-        PullsToTheLeft x = row(1, 0, 5, 0, 9);
+        PullsToTheLeft x = Made.row(1, 0, 5, 0, 9);
         due.same("38: only the first is met", -1, x.first(1, 0));
         due.same("38: as now", 0, x.first(1, 1));
         due.same("38: then the second", 1, x.first(2, 0));
@@ -350,7 +341,7 @@ public final class RowBoundsTest {
         x = new PullsToTheLeft();
         due.same("38: no trolleys", -1, x.first(24, 0));
         due.same("38: no trolleys", 0, x.first(24, 1));
-        x = row(1, 0, 5, 0, 0);
+        x = Made.row(1, 0, 5, 0, 0);
         due.same("38: none is bad", -1, x.first(24, 0));
         due.same("38: as now", 0, x.first(24, 1));
     }

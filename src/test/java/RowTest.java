@@ -18,15 +18,6 @@ public final class RowTest {
         due.end();
     }
 
-    private static PullsToTheLeft row(int looks, int bears, int away, int... bad) {
-        PullsToTheLeft x = new PullsToTheLeft();
-        for (int b : bad) x.come(b);
-        x.rule(1, 0, looks);
-        x.rule(2, 0, bears);
-        x.rule(3, 0, away);
-        return x;
-    }
-
     private static void come() {
         PullsToTheLeft x = new PullsToTheLeft();
         due.same("come(-1)", -2, x.come(-1));
@@ -89,7 +80,7 @@ public final class RowTest {
     }
 
     private static void meetsTheFirst() {
-        PullsToTheLeft x = row(1, 30, 2, 50, 10, 40);
+        PullsToTheLeft x = Made.row(1, 30, 2, 50, 10, 40);
         meets(x, 0, 0, 0, 0, 0);
         meets(x, 1, 50, 50, 1, 1);
         meets(x, 2, 60, 50, 3, 2);
@@ -101,37 +92,37 @@ public final class RowTest {
     }
 
     private static void meetsTheBetter() {
-        PullsToTheLeft x = row(2, 30, 2, 50, 10, 40);
+        PullsToTheLeft x = Made.row(2, 30, 2, 50, 10, 40);
         meets(x, 1, 10, 10, 2, 0);
         meets(x, 2, 50, 40, 6, 0);
         meets(x, 4, 110, 50, 7, 2);
-        x = row(8, 30, 2, 50, 30, 10);
+        x = Made.row(8, 30, 2, 50, 30, 10);
         meets(x, 1, 30, 30, 2, 0);
-        x = row(8, 29, 2, 50, 30, 10);
+        x = Made.row(8, 29, 2, 50, 30, 10);
         meets(x, 1, 10, 10, 4, 0);
-        x = row(8, 5, 2, 50, 10, 10);
+        x = Made.row(8, 5, 2, 50, 10, 10);
         meets(x, 1, 10, 10, 2, 0);
-        x = row(2, 0, 2, 50, 60, 10);
+        x = Made.row(2, 0, 2, 50, 60, 10);
         meets(x, 1, 50, 50, 1, 1);
     }
 
     private static void awayAndBack() {
         // The one that is back stands behind: 0 1 2, 1 2 0, 2 0 1.
-        PullsToTheLeft x = row(1, 0, 0, 1, 2, 4);
+        PullsToTheLeft x = Made.row(1, 0, 0, 1, 2, 4);
         meets(x, 2, 3, 2, 3, 2);
         meets(x, 3, 7, 4, 7, 0);
         meets(x, 4, 8, 4, 7, 1);
-        x = row(8, 0, 0, 9, 5, 5);
+        x = Made.row(8, 0, 0, 9, 5, 5);
         // 5 of trolley 1, then of 2 which stands ahead of it.
         meets(x, 2, 10, 5, 6, 0);
         meets(x, 3, 15, 5, 6, 0);
-        x = row(8, 0, 1, 9, 5, 7);
+        x = Made.row(8, 0, 1, 9, 5, 7);
         meets(x, 2, 12, 7, 6, 0);
         meets(x, 3, 17, 7, 6, 0);
     }
 
     private static void oneTrolley() {
-        PullsToTheLeft x = row(3, 0, 5, 7);
+        PullsToTheLeft x = Made.row(3, 0, 5, 7);
         meets(x, 1, 7, 7, 1, 0);
         meets(x, 6, 7, 7, 1, 0);
         meets(x, 7, 14, 7, 1, 0);
@@ -141,7 +132,7 @@ public final class RowTest {
     }
 
     private static void meetsRefused() {
-        PullsToTheLeft x = row(1, 30, 2, 50);
+        PullsToTheLeft x = Made.row(1, 30, 2, 50);
         due.same("n", -2, x.meets(-1, 0));
         due.same("n", -2, x.meets(25, 0));
         due.same("what", -2, x.meets(1, -1));
@@ -149,7 +140,7 @@ public final class RowTest {
     }
 
     private static void day() {
-        PullsToTheLeft x = row(2, 30, 2, 50, 10, 40, 60);
+        PullsToTheLeft x = Made.row(2, 30, 2, 50, 10, 40, 60);
         due.same("n", -2, x.day(-1));
         due.same("n", -2, x.day(25));
         due.same("no guest", 0, x.day(0));
@@ -166,14 +157,14 @@ public final class RowTest {
     }
 
     private static void share() {
-        PullsToTheLeft x = row(3, 0, 5, 7);
+        PullsToTheLeft x = Made.row(3, 0, 5, 7);
         due.same("7 by 1 less 7", 0, x.share(1, 0));
         due.same("0 by 1", 1, x.share(1, 1));
         due.same("7 by 6 less 7", -35, x.share(6, 0));
         due.same("7 by 6 less 7", 6, x.share(6, 1));
         due.same("14 by 7 less 7", -5, x.share(7, 0));
         due.same("14 by 7 less 7", 1, x.share(7, 1));
-        x = row(1, 0, 2, 50, 10, 40);
+        x = Made.row(1, 0, 2, 50, 10, 40);
         due.same("50 less 100 by 3", 50, x.share(1, 0));
         due.same("50 less 100 by 3", 3, x.share(1, 1));
         due.same("60 by 2 less 100 by 3", -10, x.share(2, 0));
@@ -186,7 +177,7 @@ public final class RowTest {
     }
 
     private static void best() {
-        PullsToTheLeft x = row(7, 30, 2, 50, 10, 40);
+        PullsToTheLeft x = Made.row(7, 30, 2, 50, 10, 40);
         due.same("looks 2", 2, x.best(4, 0));
         due.same("bad then", 110, x.best(4, 1));
         due.same("looks 1 of like ones", 1, x.best(3, 0));
@@ -194,7 +185,7 @@ public final class RowTest {
         due.same("no guest", 1, x.best(0, 0));
         due.same("no guest", 0, x.best(0, 1));
         due.same("in thought", 7, x.rule(1, 0, 1));
-        x = row(1, 0, 5, 90, 80, 70, 60, 50, 40, 30, 20);
+        x = Made.row(1, 0, 5, 90, 80, 70, 60, 50, 40, 30, 20);
         due.same("looks 8", 8, x.best(1, 0));
         due.same("bad then", 20, x.best(1, 1));
         due.same("n", -2, x.best(-1, 0));
@@ -204,7 +195,7 @@ public final class RowTest {
     }
 
     private static void first() {
-        PullsToTheLeft x = row(1, 30, 2, 50, 10, 40);
+        PullsToTheLeft x = Made.row(1, 30, 2, 50, 10, 40);
         due.same("the one met twice", 0, x.first(4, 0));
         due.same("bad then", 50, x.first(4, 1));
         due.same("no guest", -1, x.first(0, 0));
@@ -215,7 +206,7 @@ public final class RowTest {
         x.rule(0, 0, 0);
         due.same("as it is already", -1, x.first(1, 0));
         due.same("as now", 0, x.first(1, 1));
-        x = row(3, 0, 2, 50, 10, 40);
+        x = Made.row(3, 0, 2, 50, 10, 40);
         due.same("10 is met now, 0 would be", 0, x.first(1, 0));
         due.same("bad then", 0, x.first(1, 1));
         due.same("n", -2, x.first(-1, 0));
