@@ -2,7 +2,6 @@ import java.lang.reflect.Constructor;
 import java.lang.reflect.Field;
 import java.lang.reflect.Method;
 import java.lang.reflect.Modifier;
-import java.util.Arrays;
 import java.util.Set;
 import java.util.TreeSet;
 
@@ -28,8 +27,8 @@ public final class FaceTest {
         Due due = new Due();
         Class<?> type = PullsToTheLeft.class;
         due.same("public and final", Modifier.PUBLIC | Modifier.FINAL, type.getModifiers());
-        due.same("methods", sorted(FACE), methods(type));
-        due.same("constants", sorted(CONSTANTS), constants(type));
+        due.same("methods", sorted("public", FACE), methods(type));
+        due.same("constants", sorted("public static final", CONSTANTS), constants(type));
         due.same("constructors", "[public PullsToTheLeft()]", constructors(type));
         due.same("NONE", -1, PullsToTheLeft.NONE);
         due.same("BAD", -2, PullsToTheLeft.BAD);
@@ -39,15 +38,18 @@ public final class FaceTest {
         due.end();
     }
 
-    private static String sorted(String[] all) {
-        return new TreeSet<>(Arrays.asList(all)).toString();
+    private static String sorted(String modifiers, String[] all) {
+        Set<String> rows = new TreeSet<>();
+        for (String row : all) rows.add(modifiers + " " + row);
+        return rows.toString();
     }
 
     private static String methods(Class<?> type) {
         Set<String> found = new TreeSet<>();
         for (Method m : type.getDeclaredMethods()) {
             if (Modifier.isPrivate(m.getModifiers())) continue;
-            StringBuilder row = new StringBuilder(m.getReturnType() + " " + m.getName() + "(");
+            StringBuilder row = new StringBuilder(Modifier.toString(m.getModifiers()));
+            row.append(' ').append(m.getReturnType()).append(' ').append(m.getName()).append('(');
             for (Class<?> p : m.getParameterTypes()) {
                 if (row.charAt(row.length() - 1) != '(') row.append(',');
                 row.append(p);
@@ -61,7 +63,7 @@ public final class FaceTest {
         Set<String> found = new TreeSet<>();
         for (Field f : type.getDeclaredFields()) {
             if (Modifier.isPrivate(f.getModifiers())) continue;
-            found.add(f.getType() + " " + f.getName());
+            found.add(Modifier.toString(f.getModifiers()) + " " + f.getType() + " " + f.getName());
         }
         return found.toString();
     }

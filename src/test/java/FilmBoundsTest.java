@@ -24,6 +24,8 @@ public final class FilmBoundsTest {
         moreLeastAndMost();
         // 27
         whichOneAlone();
+        whichByLiftedOnes();
+        whichByMoreUpTo9();
         // 28
         heldRefused();
         heldFromNoneToAll();
@@ -184,6 +186,34 @@ public final class FilmBoundsTest {
         x.wheel(1, 2, 1);
         x.film(0, 1);
         due.same("27: two wish 6, which any may: fluttering", 15, x.which(0));
+    }
+
+    /** Without 50 of one of two: no other kind, on any wheel, pulls by 50. */
+    private static void whichByLiftedOnes() {
+        for (int w = 0; w < 4; w++) {
+            PullsToTheLeft x = Made.by(due, "drags 50*(wheel=" + w + " or wheel=" + (w ^ 1) + ");holds 0;bumps 0;");
+            Made.allWide(x, 99);
+            x.set(3, 0, 8);
+            x.wheel(w, 5, 9);
+            x.film(0, 1);
+            x.wheel(w, 0, 0);
+            due.same("27: wheel " + w + " alone, lifted", 1 << w, x.which(0));
+        }
+    }
+
+    private static void whichByMoreUpTo9() {
+        PullsToTheLeft x = new PullsToTheLeft();
+        Made.allWide(x, 99);
+        x.set(3, 0, 8);
+        x.sheet(0, 2, 1);
+        x.cell(0, 0, 9);
+        due.same("27: 9 to the right: sticking by 9", 10, x.which(0));
+        x.cell(0, 0, 10);
+        due.same("27: 10 to the right: none", 0, x.which(0));
+        x.cell(0, 0, -19);
+        due.same("27: 19 to the left: turning by 9", 15, x.which(0));
+        x.cell(0, 0, -21);
+        due.same("27: 21 to the left: none", 0, x.which(0));
     }
 
     private static void heldRefused() {

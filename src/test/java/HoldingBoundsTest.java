@@ -14,6 +14,7 @@ public final class HoldingBoundsTest {
         // 17
         putRanges();
         putWhereThereIsRoom();
+        putUponWhatLiesThere();
         // 18
         swapFirstAndLast();
         swapIfLess();
@@ -154,6 +155,21 @@ public final class HoldingBoundsTest {
         PullsToTheLeft x = new PullsToTheLeft();
         due.same("17: of like ones the first", 0, x.put(40, 0));
         due.same("17: wherever it is put", 20, x.put(40, 1));
+    }
+
+    private static void putUponWhatLiesThere() {
+        for (int p = 0; p < 8; p++) {
+            PullsToTheLeft x = Made.by(due, "drags load;holds 0;bumps 0;");
+            x.set(3, 0, 8);
+            Made.allWide(x, 99);
+            for (int other = 0; other < 8; other++) x.set(0, other, other == p ? 10 : 40);
+            due.same("17: the only one with room", p, x.put(30, 0));
+            due.same("17: 40 of each", 0, x.put(30, 1));
+            due.same("17: 39 of one", 30, x.put(29, 1));
+        }
+        PullsToTheLeft x = loaded(2, 0, 0, 0, 0, 0, 0, 0);
+        due.same("17: the first to the right, not the last place", 2, x.put(1, 0));
+        due.same("17: 1 more to the left all the same", 30, x.put(1, 1));
     }
 
     private static PullsToTheLeft loaded(int... loads) {

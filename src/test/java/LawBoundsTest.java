@@ -7,6 +7,7 @@ public final class LawBoundsTest {
     public static void main(String[] args) {
         // 1
         nothingAtFirst();
+        eachObjectForItself();
         // 2
         countsWhat();
         countsFromEmptyToFull();
@@ -29,6 +30,8 @@ public final class LawBoundsTest {
         numbersOfFourDigits();
         fiveOpenOfEachSort();
         openTillItEnds();
+        openBehindAllThatJoins();
+        asManyAsTheTapeHasRoomFor();
         wrapsIn32Bits();
         trueIs1AndFalse0();
         saysFrom0To99();
@@ -62,6 +65,15 @@ public final class LawBoundsTest {
         due.same("1: away", 2, x.rule(3, 0, 2));
         for (int t = 0; t < 30; t++) due.same("1: wide", 20, x.look(4, t));
         due.same("1: pace", 3, x.look(3, 0));
+    }
+
+    private static void eachObjectForItself() {
+        String first = Whole.of(new PullsToTheLeft());
+        PullsToTheLeft x = new PullsToTheLeft();
+        PullsToTheLeft other = Whole.rich();
+        due.same("1: made ahead of a changed one", first, Whole.of(x));
+        due.same("1: made behind a changed one", first, Whole.of(new PullsToTheLeft()));
+        due.same("1: the changed one by itself", Whole.of(Whole.rich()), Whole.of(other));
     }
 
     private static void countsWhat() {
@@ -328,6 +340,34 @@ public final class LawBoundsTest {
         due.same("4: a not is open behind its +", -125, read("drags not not not not 0+-(1)"));
         due.same("4: behind an and it is not", 1, said("drags not not not not 1 and (((((1)))));holds 1;bumps 1;"));
         due.same("4: each part anew", 1, read("drags (((((1)))));holds -----1;bumps not not not not not 1;"));
+    }
+
+    /** What stands open inside stays so behind whatever joins. */
+    private static void openBehindAllThatJoins() {
+        String rest = ";holds 1;bumps 1;";
+        for (String joins : new String[] {" or ", " and ", "+", "-", "*", "<", "="}) {
+            String five = "drags (((((1" + joins;
+            due.same("4: a sixth ( behind" + joins, -100 - five.length(), read(five + "(1"));
+            due.same("4: a sixth - behind" + joins, -100 - five.length(), read(five + "-1"));
+            String four = "drags ((((1" + joins;
+            due.same("4: a fifth ( behind" + joins, 1, read(four + "(1)))))" + rest));
+            due.same("4: a fifth - behind" + joins, 1, read(four + "-1))))" + rest));
+        }
+        for (String joins : new String[] {" or ", " and "}) {
+            String five = "drags (((((1" + joins;
+            due.same("4: a sixth not behind" + joins, -100 - five.length(), read(five + "not 1"));
+            due.same("4: a fifth not behind" + joins, 1, read("drags ((((1" + joins + "not 1))))" + rest));
+        }
+    }
+
+    private static void asManyAsTheTapeHasRoomFor() {
+        String rest = ";holds 1;bumps 1;";
+        due.same("4: 45 or", 0, said("drags " + "0or".repeat(45) + "0" + rest));
+        due.same("4: 45 or, the last is true", 1, said("drags " + "0or".repeat(45) + "1" + rest));
+        due.same("4: 34 and", 1, said("drags " + "1and".repeat(34) + "1" + rest));
+        due.same("4: 34 and, the last is not true", 0, said("drags " + "1and".repeat(34) + "0" + rest));
+        due.same("4: 68 *", 7, said("drags " + "1*".repeat(68) + "7" + rest));
+        due.same("4: 67 -", 32, said("drags 99" + "-1".repeat(67) + rest));
     }
 
     private static void wrapsIn32Bits() {

@@ -176,6 +176,7 @@ public final class LawTest {
         due.same("a - ahead of a ONE does", -113, read("drags (((((1--1)))));holds 1;bumps 1;"));
         due.same("( one behind the other", 1, read("drags (1)+(1)+(1)+(1)+(1)+(1)+(1);holds 1;bumps 1;"));
         due.same("- one behind the other", 1, read("drags -1+-1+-1+-1+-1+-1+-1;holds 1;bumps 1;"));
+        due.same("- ends ahead of a *", 1, read("drags -----1*-1*(1);holds 1;bumps 1;"));
         due.same("- ends with a )", 1, read("drags -(-(1))+-(-(1))+-(-(1));holds 1;bumps 1;"));
         due.same("not one behind the other", 1,
                 read("drags not 1 and not 1 and not 1 or not 1 or not 1 or not 1;holds 1;bumps 1;"));
@@ -255,6 +256,16 @@ public final class LawTest {
         said("not 1 and 0", 0);
         said("not (1 and 0)", 1);
         said("not 0 or 1", 1);
+        said("0 and 0 or 1", 1);
+        said("0 and 1 or 1", 1);
+        said("1 and 0 or 0 and 1", 0);
+        said("1 and 1 or 0 and 0", 1);
+        said("0 or 0 and 1 or 1", 1);
+        said("2 < 1 + 2", 1);
+        said("3 < 1 + 1 + 1", 0);
+        said("6 = 2 * 3", 1);
+        said("1 = 4 - 2 - 1", 1);
+        said("1 + 1 < 3 and 2 * 2 = 1 + 3", 1);
         said("7 * (3 < 4) + 5 * (4 < 3)", 7);
         said("99", 99);
         said("100", 99);

@@ -23,11 +23,13 @@ public final class LotBoundsTest {
         oddsRanges();
         oddsFromNoneToAll();
         oddsBeyondTheLastSeed();
+        oddsThoughBumpsCostNothing();
         // 41, 42
         backWithoutImage();
         imageTouchesNothing();
         backAsOftenAsAsked();
         imageOfNothingAndOfAll();
+        imageOfEachNumberOfTrolleys();
         backByEachOfThese();
         due.end();
     }
@@ -115,6 +117,12 @@ public final class LotBoundsTest {
         }
     }
 
+    private static void oddsThoughBumpsCostNothing() {
+        PullsToTheLeft x = Made.by(due, "drags 99*(wheel=0);holds 0;bumps 0;");
+        due.same("40: it bumps, whatever that costs", 0, x.odds(0, 30, 0));
+        due.same("40: of as many, in lowest terms", 1, x.odds(0, 30, 1));
+    }
+
     private static long commonDivisor(long a, long b) {
         return b == 0 ? a : commonDivisor(b, a % b);
     }
@@ -178,6 +186,15 @@ public final class LotBoundsTest {
             due.same("42: as bad as they were", 99 - t, x.rule(0, t, 0));
         }
         due.same("42: full again", -4, x.come(0));
+    }
+
+    private static void imageOfEachNumberOfTrolleys() {
+        PullsToTheLeft x = new PullsToTheLeft();
+        for (int n = 1; n <= 8; n++) {
+            x.come(n);
+            due.same("41: how many, though there was no day yet", n, x.image());
+            due.same("42: how many", n, x.back());
+        }
     }
 
     /** One thing alone is changed each time, and is back. */
