@@ -174,7 +174,9 @@ public final class LawTest {
         due.same("five of all", -120, read("drags not (not (- 1 ;"));
         due.same("a - that joins opens nothing", 1, read("drags (((((1-1-1)))));holds 1;bumps 1;"));
         due.same("a - ahead of a ONE does", -113, read("drags (((((1--1)))));holds 1;bumps 1;"));
-        due.same("( one behind the other", 1, read("drags (1)+(1)+(1)+(1)+(1)+(1)+(1);holds 1;bumps 1;"));
+        for (String joins : new String[] {"or", "and", "+", "-", "*"}) {
+            due.same("( one behind the other", 1, read("drags (1)" + (joins + "(1)").repeat(6) + ";holds 1;bumps 1;"));
+        }
         due.same("- one behind the other", 1, read("drags -1+-1+-1+-1+-1+-1+-1;holds 1;bumps 1;"));
         due.same("- ends ahead of a *", 1, read("drags -----1*-1*(1);holds 1;bumps 1;"));
         due.same("- ends with a )", 1, read("drags -(-(1))+-(-(1))+-(-(1));holds 1;bumps 1;"));
